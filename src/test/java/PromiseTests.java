@@ -113,11 +113,14 @@ public final class PromiseTests {
         globalOf("the later is better", Check.picture(3, 0, 10, 21), 10, "##.");
         globalOf("the ends", Check.picture(2, 255, 0), 0, ".#");
         globalOf("beside the greatest", Check.picture(2, 255, 254), 254, ".#");
+        globalOf("the greatest and beside it", Check.picture(2, 254, 255), 254, "#.");
         globalOf("all alike", Check.picture(2, 77, 77, 77, 77), 76, "../..");
         globalOf("all 0", Check.picture(2, 0, 0), -1, "..");
         globalOf("all 255", Check.picture(1, 255), 254, ".");
         // Bound 1 has 24^2 / 3, bound 7 has 24^2 / 4.
         globalOf("one against three", Check.picture(4, 12, 1, 8, 7), 1, ".#..");
+        // Bound 0 has 23^2 / 3, which is more than 26^2 / 4 of bound 5.
+        globalOf("a worth is divided", Check.picture(4, 0, 5, 9, 9), 0, "#...");
         // Both bounds have 9^2 / 2: the least is taken.
         globalOf("equal fractions", Check.picture(3, 6, 3, 0), 0, "..#");
         // Bound 0 has 13^2 / 4 and bound 2 has 16^2 / 6: both are 42 and some more, the second is greater.
@@ -151,7 +154,12 @@ public final class PromiseTests {
         localOf("alike 127", Check.picture(2, 127, 127, 127, 127), 3, 64, 4, "##/##");
         localOf("alike 128", Check.picture(2, 128, 128, 128, 128), 3, 0, 0, "../..");
         localOf("alike here and there", Check.picture(5, 200, 200, 200, 10, 10), 3, 0, 2, "...##");
-        // The corner sees one 250 in nine across; without the corners it would see none.
+        // A window that went one too far would see the 0, and take the second 100 for white.
+        localOf("the end of a row's window", Check.picture(4, 100, 100, 100, 0), 3, 0, 3, "##.#");
+        localOf("the end of a column's window", Check.picture(1, 100, 100, 100, 0), 3, 0, 3, "#/#/./#");
+        localOf("the start of a row's window", Check.picture(4, 0, 100, 100, 100), 3, 0, 3, "#.##");
+        localOf("the start of a column's window", Check.picture(1, 0, 100, 100, 100), 3, 0, 3, "#/./#/#");
+        // The sample at the upper left sees the 250 across its window's corner alone.
         localOf("corners of windows", Check.picture(2, 200, 200, 200, 250), 3, 0, 3, "##/#.");
         localOf("half beyond", Check.picture(3, 9, 0, 9, 0, 9, 0, 9, 0, 9), 3, 0, 4, ".#./#.#/.#.");
     }
@@ -193,6 +201,7 @@ public final class PromiseTests {
         spreadOf("backward", Check.picture(2, 0, 0, 100, 100), 1, 3, "##/.#", -55);
         spreadOf("forward first", Check.picture(2, 100, 100), 1, 1, "#.", -55);
         spreadOf("forward again", Check.picture(2, 0, 0, 0, 0, 100, 100), 1, 5, "##/##/#.", -55);
+        spreadOf("backward again", Check.picture(2, 0, 0, 0, 0, 0, 0, 100, 100), 1, 7, "##/##/##/.#", -55);
         spreadOf("four alike, turning", Check.picture(2, 100, 100, 100, 100), 1, 2, "#./.#", -110);
         spreadOf("the rest below", Check.picture(1, 101, 76), 1, 2, "#/#", 177);
     }
@@ -480,6 +489,7 @@ public final class PromiseTests {
         Check.same("parts, turned", picture.told(3), 3);
         picture.paint(0, 64);
         Check.same("different samples", picture.told(4), 4);
+        Check.same("different samples, one alone", Check.picture(3, 1, 2, 2).told(4), 2);
         Check.same("one of the same", new LocalBounds(9, 9).told(4), 1);
         // A row's end does not hang together with the next row's start.
         Check.same("rows end", Check.withResult("..#/#..").told(3), 2);
