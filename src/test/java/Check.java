@@ -11,6 +11,10 @@ final class Check {
         }
     }
 
+    static void same(String what, boolean got, boolean due) {
+        same(what, Boolean.toString(got), Boolean.toString(due));
+    }
+
     static void same(String what, String got, String due) {
         if (!got.equals(due)) {
             fail(what + ": answered " + got + ", due is " + due);
@@ -25,14 +29,18 @@ final class Check {
     /** The call throws just this, and the picture is after it what it was before. */
     static void refuses(String what, LocalBounds picture, Class<?> due, Runnable call) {
         String before = state(picture);
-        String got = "nothing";
+        same(what + " throws", thrownBy(call), due.getSimpleName());
+        same(what + " changes nothing", state(picture), before);
+    }
+
+    /** The name of what the call throws, or "nothing". */
+    static String thrownBy(Runnable call) {
         try {
             call.run();
         } catch (RuntimeException e) {
-            got = e.getClass().getName();
+            return e.getClass().getSimpleName();
         }
-        same(what + " throws", got, due.getName());
-        same(what + " changes nothing", state(picture), before);
+        return "nothing";
     }
 
     /** All that can be seen of a picture. */

@@ -1,6 +1,7 @@
 /**
  * Long fixed runs of calls, each answered by the class and by Model, which does all in the plainest way
- * and shares no way of working with the class; after each call all that can be seen is compared.
+ * and shares no way of working with the class; after each call all that can be seen is compared. With what is
+ * asked to compare, an object gets more than the document's 512 calls: the class keeps no count of them.
  */
 public final class ModelTests {
     private static final int CALLS = 512;
