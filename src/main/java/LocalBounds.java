@@ -523,7 +523,10 @@ public final class LocalBounds {
 
     private int turnQueued(boolean colour) {
         for (int next = 0; next < count && next < queued; next++) {
-            black[queue[next]] = colour;
+            int place = queue[next];
+            if (place >= 0 && place < count) {
+                black[place] = colour;
+            }
         }
         return queued;
     }
